@@ -17,6 +17,7 @@ public final class NightEdgeTest {
         mind();
         hold();
         weather();
+        alone();
         undoEach();
         undoMost();
         undoOnlyChanges();
@@ -510,6 +511,69 @@ public final class NightEdgeTest {
         due("count(3)", x.count(3), 0);
         due("count(4)", x.count(4), 0);
         due("count(9)", x.count(9), 0);
+    }
+
+    private static void alone() {
+        Edge.sentence("terms 2", "A LEANING can be changed, whom one MINDS; a BOAT be HELD or let go; STORM, ICE come or end (that alone, and nothing beside it)");
+        for (int i = 0; i < 8; i++) {
+            for (int value = 0; value < 8; value++) {
+                for (int base = 0; base < 2; base++) {
+                    LeavingVote x = based(base);
+                    int[] want = all(x);
+                    want[8 + i] = value;
+                    x.mind(i, value);
+                    allDue("mind(" + i + ", " + value + ")", x, want);
+                    want[i] = value % 4;
+                    x.lean(i, value % 4);
+                    allDue("lean(" + i + ", " + value % 4 + ")", x, want);
+                    want[16 + i % 7] = 1 - want[16 + i % 7];
+                    if (i % 7 < 5) {
+                        x.hold(i % 7);
+                    } else {
+                        x.weather(i % 7 - 5);
+                    }
+                    allDue("hold or weather " + i % 7, x, want);
+                    x.undo();
+                    x.undo();
+                    x.undo();
+                    allDue("all undone", x, all(based(base)));
+                }
+            }
+        }
+    }
+
+    /** Nothing is against it, minded but 0, held, or in the sky; or all is as much as can be. */
+    private static LeavingVote based(int base) {
+        LeavingVote x = Edge.laid(Edge.times(8, base == 0 ? "i0,0,0,0;" : "i0,3,7,0;") + Edge.times(5, "b1;"));
+        for (int b = 0; b < 5 && base == 1; b++) {
+            x.hold(b);
+        }
+        for (int what = 0; what < 2 && base == 1; what++) {
+            x.weather(what);
+        }
+        return x;
+    }
+
+    /** LEANINGS, whom they MIND, HELD, STORM, ICE. */
+    private static int[] all(LeavingVote x) {
+        int[] all = new int[23];
+        for (int i = 0; i < 8; i++) {
+            all[i] = x.islander(i, 1);
+            all[8 + i] = x.islander(i, 2);
+        }
+        for (int b = 0; b < 5; b++) {
+            all[16 + b] = x.boat(b, 1);
+        }
+        all[21] = x.count(3);
+        all[22] = x.count(4);
+        return all;
+    }
+
+    private static void allDue(String call, LeavingVote x, int[] want) {
+        int[] got = all(x);
+        for (int k = 0; k < want.length; k++) {
+            due("number " + k + " after " + call, got[k], want[k]);
+        }
     }
 
     private static void undoEach() {

@@ -278,6 +278,9 @@ public final class SeenEdgeTest {
         oddsDue("who takes the seat before another", Edge.laid("i1,1,0,0;i0,1,0,0;b1;h5;s5;"), 0, 1, 1);
         oddsDue("two of three, two seats", Edge.laid("i1,1,0,0;i1,1,0,0;i0,1,0,0;b2;h6;s5;"), 0, 3, 4);
         oddsDue("two of three, two beds", Edge.laid("i1,1,0,0;i1,1,0,0;i0,1,0,0;b8;d2;h6;s5;"), 0, 3, 4);
+        oddsDue("who has a seat only if another stays", Edge.laid("i1,1,0,0;i1,1,0,0;b1;h5;s5;"), 0, 3, 4);
+        oddsDue("who has a bed only if another stays", Edge.laid("i1,1,0,0;i1,1,0,0;b2;d1;h5;s5;"), 0, 3, 4);
+        oddsDue("who has a bed only if another stays, by ice", Edge.iced("i1,1,0,0;i1,1,0,0;d1;h5;s5;"), 0, 3, 4);
         oddsDue("two of three, a seat", Edge.laid("i1,1,0,0;i1,1,0,0;i0,1,0,0;b1;h6;s5;"), 0, 0, 1);
         LeavingVote x = Edge.stormy("i1,1,0,0;i1,1,0,0;b8;h1;");
         oddsDue("a storm", x, 0, 0, 1);

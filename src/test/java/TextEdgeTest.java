@@ -210,6 +210,21 @@ public final class TextEdgeTest {
             due("fault() of -1", Edge.faultOf(field[0] + "-1" + field[1]), 0);
             due("fault() of +1", Edge.faultOf(field[0] + "+1" + field[1]), 0);
         }
+        Edge.sentence("terms 1", "numbers (figures, and no other sign)");
+        for (String[] field : FIELDS) {
+            for (char c = 32; c <= 126; c++) {
+                if (c < '0' || c > '9') {
+                    due("fault() with " + c + " for a number", Edge.faultOf(field[0] + c + field[1]), 0);
+                    due("fault() with " + c + " for the first figure", Edge.faultOf(field[0] + c + "1" + field[1]), 0);
+                    due("fault() with " + c + " for both", Edge.faultOf(field[0] + c + c + field[1]), 0);
+                }
+                if ((c < '0' || c > '9') && c != ',' && c != ';') {
+                    due("fault() with " + c + " for the second figure", Edge.faultOf(field[0] + "1" + c + field[1]), 0);
+                    due("fault() with " + c + " behind a 0", Edge.faultOf(field[0] + "0" + c + field[1]), 0);
+                    due("fault() with " + c + " for the third", Edge.faultOf(field[0] + "01" + c + field[1]), 0);
+                }
+            }
+        }
         Edge.sentence("terms 1", "numbers (one or two figures; what two tell)");
         LeavingVote x = Edge.laid("i00,01,00,09;i03,02,01,00;b08;b01;d09;m40;h09;s10;");
         int[][] told = {{0, 1, 0, 9}, {3, 2, 1, 0}};
@@ -270,6 +285,7 @@ public final class TextEdgeTest {
             due("fault() of i0,0,0,0" + c, Edge.faultOf("i0,0,0,0" + c), want);
             for (char letter : "bdmhs".toCharArray()) {
                 due("fault() of " + letter + "1" + c, Edge.faultOf(letter + "1" + c), want);
+                due("fault() of " + letter + "1" + c + "s5;", Edge.faultOf(letter + "1" + c + "s5;"), want);
             }
             due("fault() of m40" + c, Edge.faultOf("m40" + c), want);
         }
